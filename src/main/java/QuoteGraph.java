@@ -292,7 +292,7 @@ public final class QuoteGraph {
         return bits;
     }
 
-    /** Goes at most as deep as there are nodes: each one told is stale from then on. */
+    /** Goes at most as deep as there are nodes (16): each one told is stale from then on. */
     private void tell(Node node) {
         if (!node.valid) {
             return;
@@ -314,7 +314,7 @@ public final class QuoteGraph {
         }
     }
 
-    /** Goes at most as deep as there are nodes, since no node uses itself. */
+    /** Goes at most as deep as there are nodes (16): extraPartAt lets no node use itself. */
     private void ask(Node node) {
         if (node.valid) {
             return;
@@ -652,7 +652,7 @@ public final class QuoteGraph {
         @Override
         void checkSuits(Option option) {
             if (option.american) {
-                throw new UnsupportedOperationException("a path doesn't know what waiting is worth");
+                throw new UnsupportedOperationException("a path doesn't tell when to stop");
             }
         }
 

@@ -5,6 +5,8 @@ import java.util.function.Supplier;
 public final class ModelTest {
     private static final int RUNS = 400;
     private static final int CALLS = 160;
+    /** How often each outcome that main names has turned up. */
+    private static final int[] SEEN = new int[7];
 
     private final Check check = new Check();
     private final Random random;
@@ -12,7 +14,6 @@ public final class ModelTest {
     private final QuoteGraph graph = new QuoteGraph();
     private final Model model = new Model();
     private final boolean large;
-    private static final int[] SEEN = new int[7];
 
     private ModelTest(int seed) {
         random = new Random(seed);
