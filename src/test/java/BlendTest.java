@@ -3,87 +3,104 @@ public final class BlendTest {
     public static void main(String[] args) {
         Check check = new Check();
         weighsItsParts(check);
-        roundsHalvesUp(check);
-        isNotTooLargeAtAMillion(check);
-        isTooLargeAboveAMillion(check);
-        refusesBadOnes(check);
+        roundsTheSum(check);
+        isABlend(check);
+        refusesNodesThatAreNotThere(check);
+        takesTheEndsOfItsWeights(check);
+        refusesTheFirstBeyond(check);
+        answersItsNumber(check);
+        isThe16th(check);
+        isNotThe17th(check);
         check.end();
     }
 
     private static void weighsItsParts(Check check) {
-        QuoteGraph graph = Check.spotAndMove();
-        check.same("blend", graph.blend(0, 1, 0.5, -2), 2);
-        check.same("blend of a blend", graph.blend(2, 0, 1, 0.125), 3);
-        check.same("blend of one node twice", graph.blend(1, 1, 16, -16), 4);
-        check.same("0.5 80 - 2 8", graph.value(2), 24.0);
-        check.same("24 + 0.125 80", graph.value(3), 34.0);
-        check.same("16 8 - 16 8", graph.value(4), 0.0);
-        check.same("sort", graph.node(2, 0), 1);
-        check.same("parts", graph.node(2, 4), 2);
-        check.same("parts of one node twice", graph.node(4, 4), 2);
+        check.holds("Promise 3 and Terms",
+                "The value of a BLEND of a and b with weights x, y: ROUNDED(x a + y b).");
+        QuoteGraph graph = Graphs.spotAndMove();
+        check.same("0.5 80 - 2 8", graph.value(graph.blend(0, 1, 0.5, -2)), 24.0);
+        check.same("24 + 0.125 80", graph.value(graph.blend(2, 0, 1, 0.125)), 34.0);
+        check.same("one node twice", graph.value(graph.blend(1, 1, 16, -15)), 8.0);
+        check.same("weights of 0", graph.value(graph.blend(0, 1, 0, 0)), 0.0);
     }
 
-    private static void roundsHalvesUp(Check check) {
-        QuoteGraph graph = new QuoteGraph();
-        graph.quote(0.125);
-        graph.blend(0, 0, 0.125, 0);
-        int small = graph.blend(1, 1, 0.125, 0);
-        check.same("1/512", graph.value(small), 1.0 / 512);
-        double[] weights = {0.125, 0.25, 0.375, 0.5, 0.75, -0.125, -0.25, -0.375, -0.5, -0.75};
-        int[] rounded = {0, 1, 1, 1, 2, 0, 0, -1, -1, -1};
-        for (int i = 0; i < weights.length; i++) {
-            int n = graph.blend(small, small, 0, weights[i]);
-            check.same("1/512 by " + weights[i], graph.value(n), rounded[i] / 1024.0);
-        }
-        check.same("rounds the sum, not its terms",
-                graph.value(graph.blend(small, small, 0.125, 0.125)), 1.0 / 1024);
+    private static void roundsTheSum(Check check) {
+        check.holds("Promise 3 and Terms",
+                "The value of a BLEND of a and b with weights x, y: ROUNDED(x a + y b).");
+        QuoteGraph graph = Graphs.largeAndSmall();
+        int sum = graph.blend(3, 3, 0.125, 0.125);
+        check.same("1/4096 + 1/4096, rounded once", graph.value(sum), Graphs.UNIT);
+        int difference = graph.blend(3, 3, 0.25, -0.25);
+        check.same("1/2048 - 1/2048, rounded once", graph.value(difference), 0.0);
     }
 
-    private static void isNotTooLargeAtAMillion(Check check) {
-        QuoteGraph graph = new QuoteGraph();
-        graph.quote(100000);
-        graph.quote(-100000);
-        check.same("1000000", graph.value(graph.blend(0, 0, 10, 0)), 1000000.0);
-        check.same("-1000000", graph.value(graph.blend(1, 0, 10, 0)), -1000000.0);
-        check.same("14 less 4", graph.value(graph.blend(0, 1, 14, 4)), 1000000.0);
+    private static void isABlend(Check check) {
+        check.holds("Promise 3", "A new BLEND of the nodes a and b");
+        QuoteGraph graph = Graphs.spotAndMove();
+        graph.blend(0, 0, 1, 1);
+        check.same("the graph", State.of(graph),
+                "counts 3 0 0 0; 0: 0 1 0 0 0 0 = 80.0; 1: 0 1 0 0 0 0 = 8.0; 2: 1 0 0 0 2 0");
+        check.same("uses(2, 0)", graph.uses(2, 0), true);
+        check.same("uses(2, 1)", graph.uses(2, 1), false);
     }
 
-    private static void isTooLargeAboveAMillion(Check check) {
-        QuoteGraph graph = new QuoteGraph();
-        graph.quote(100000);
-        graph.quote(0.125);
-        int small = graph.blend(1, 1, 0.125, 0);
-        int smaller = graph.blend(small, small, 0.125, 0);
-        int justAbove = graph.blend(0, smaller, 10, 0.25);
-        int justBelow = graph.blend(0, smaller, -10, -0.375);
-        int roundedDown = graph.blend(0, smaller, 10, 0.125);
-        int roundedUp = graph.blend(0, smaller, -10, -0.25);
-        check.arithmetic("1000000 + 1/2048", () -> graph.value(justAbove));
-        check.arithmetic("-1000000 - 3/4096", () -> graph.value(justBelow));
-        check.same("1000000 + 1/4096", graph.value(roundedDown), 1000000.0);
-        check.same("-1000000 - 1/2048", graph.value(roundedUp), -1000000.0);
-        check.same("too large: stale", graph.node(justAbove, 1), 0);
-        check.same("too large: not worked out", graph.node(justAbove, 5), 0);
+    private static void refusesNodesThatAreNotThere(Check check) {
+        check.holds("Promise 3", "A new BLEND of the nodes a and b");
+        for (int gone : Graphs.goneNodes(10)) {
+            check.bad("a " + gone, Graphs::lively, graph -> graph.blend(gone, 1, 1, 1));
+            check.bad("b " + gone, Graphs::lively, graph -> graph.blend(0, gone, 1, 1));
+        }
     }
 
-    private static void refusesBadOnes(Check check) {
-        QuoteGraph graph = Check.spotAndMove();
-        for (double never : Check.neverNumbers()) {
-            check.bad("weight x " + never, () -> graph.blend(0, 1, never, 1));
-            check.bad("weight y " + never, () -> graph.blend(0, 1, 1, never));
+    private static void takesTheEndsOfItsWeights(Check check) {
+        check.holds("Promise 3", "weights -16 .. 16.");
+        double[][] due = {
+            {16, 0, 1280}, {-16, 0, -1280}, {0, 16, 128}, {0, -16, -128}, {16, 16, 1408},
+            {-16, -16, -1408}, {15.875, -15.875, 1143}, {0.125, -0.125, 9}, {-0.0, 0, 0}
+        };
+        for (double[] row : due) {
+            QuoteGraph graph = Graphs.spotAndMove();
+            int n = graph.blend(0, 1, row[0], row[1]);
+            check.same("weights " + row[0] + ", " + row[1], graph.value(n), row[2]);
         }
-        for (double beyond : new double[] {16.125, -16.125}) {
-            check.bad("weight x " + beyond, () -> graph.blend(0, 1, beyond, 1));
-            check.bad("weight y " + beyond, () -> graph.blend(0, 1, 1, beyond));
+    }
+
+    private static void refusesTheFirstBeyond(Check check) {
+        check.holds("Promise 3", "weights -16 .. 16.");
+        double[] beyond = {16.125, -16.125, Math.nextUp(16.0), Math.nextDown(-16.0), 17, 100000};
+        for (double weight : beyond) {
+            check.bad("x " + weight, Graphs::lively, graph -> graph.blend(0, 1, weight, 1));
+            check.bad("y " + weight, Graphs::lively, graph -> graph.blend(0, 1, 1, weight));
         }
-        for (int gone : new int[] {-1, 2, 16, Integer.MIN_VALUE, Integer.MAX_VALUE}) {
-            check.bad("a " + gone, () -> graph.blend(gone, 1, 1, 1));
-            check.bad("b " + gone, () -> graph.blend(0, gone, 1, 1));
+        for (double never : Graphs.neverNumbers()) {
+            check.bad("x " + never, Graphs::lively, graph -> graph.blend(0, 1, never, 1));
+            check.bad("y " + never, Graphs::lively, graph -> graph.blend(0, 1, 1, never));
         }
-        check.same("count(0) after bad ones", graph.count(0), 2);
-        QuoteGraph full = Check.full();
-        check.badState("a 17th node", () -> full.blend(0, 1, 1, 1));
-        check.bad("a 17th node with a bad weight", () -> full.blend(0, 1, 1, 17));
-        check.bad("a 17th node on itself", () -> full.blend(0, 16, 1, 1));
+    }
+
+    private static void answersItsNumber(Check check) {
+        check.holds("Promise 3", "Answers its number.");
+        QuoteGraph graph = Graphs.spotAndMove();
+        check.same("the third node", graph.blend(0, 1, 1, 1), 2);
+        check.bad("a bad one", () -> graph.blend(0, 1, 1, 17));
+        check.same("a blend of a blend", graph.blend(2, 2, 1, 1), 3);
+    }
+
+    private static void isThe16th(Check check) {
+        check.holds("Promise 3 and Terms", "NODES are numbered 0, 1, .. (at most 16)");
+        QuoteGraph graph = Graphs.almostFull();
+        check.same("the 16th", graph.blend(0, 14, 1, 1), 15);
+        check.same("its value", graph.value(15), 81.0);
+    }
+
+    private static void isNotThe17th(Check check) {
+        check.holds("Promise 3 and Terms",
+                "16 nodes there and one more to come: IllegalStateException.");
+        check.badState("a 17th", Graphs::full, graph -> graph.blend(0, 15, 1, 1));
+        check.holds("Promise 3 and Terms", "it comes before other troubles.");
+        check.bad("a 17th with a bad x", Graphs::full, graph -> graph.blend(0, 1, 16.125, 1));
+        check.bad("a 17th with a bad y", Graphs::full, graph -> graph.blend(0, 1, 1, 0.1));
+        check.bad("a 17th on itself", Graphs::full, graph -> graph.blend(0, 16, 1, 1));
+        check.bad("a 17th on no node", Graphs::full, graph -> graph.blend(-1, 0, 1, 1));
     }
 }

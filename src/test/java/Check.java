@@ -1,11 +1,28 @@
-/** Compares answers with those that are due, prints the wrong ones and ends with their verdict. */
+/**
+ * Compares answers with those that are due, prints the wrong ones with the sentence of the document
+ * that they break, and ends with the verdict.
+ */
 final class Check {
     interface Call {
         void run();
     }
 
+    interface Start {
+        QuoteGraph make();
+    }
+
+    interface Use {
+        void of(QuoteGraph graph);
+    }
+
+    private String sentence = "";
     private int wrong;
     private int compared;
+
+    /** The answers that follow are held to these words, at this place of the document. */
+    void holds(String place, String words) {
+        sentence = place + ", '" + words + "': ";
+    }
 
     void same(String call, double got, double due) {
         compared++;
@@ -25,6 +42,22 @@ final class Check {
         same(call, got ? 1 : 0, due ? 1 : 0);
     }
 
+    void same(String call, String got, String due) {
+        compared++;
+        if (!got.equals(due)) {
+            tellWrong(call, got, due);
+        }
+    }
+
+    void taken(String call, Call run) {
+        compared++;
+        try {
+            run.run();
+        } catch (RuntimeException e) {
+            tellWrong(call, "with " + e, "no exception");
+        }
+    }
+
     void bad(String call, Call run) {
         fails(call, IllegalArgumentException.class, run);
     }
@@ -41,7 +74,43 @@ final class Check {
         fails(call, UnsupportedOperationException.class, run);
     }
 
-    void fails(String call, Class<? extends RuntimeException> due, Call run) {
+    /** The use of a new graph is bad, and nothing that can be seen of the graph changes by it. */
+    void bad(String call, Start start, Use use) {
+        refused(call, IllegalArgumentException.class, start, use);
+    }
+
+    void badState(String call, Start start, Use use) {
+        refused(call, IllegalStateException.class, start, use);
+    }
+
+    QuoteGraph arithmetic(String call, Start start, Use use) {
+        return troubled(call, ArithmeticException.class, start, use);
+    }
+
+    QuoteGraph unsupported(String call, Start start, Use use) {
+        return troubled(call, UnsupportedOperationException.class, start, use);
+    }
+
+    private void refused(String call, Class<? extends RuntimeException> due, Start start, Use use) {
+        QuoteGraph graph = start.make();
+        String before = State.of(graph);
+        fails(call, due, () -> use.of(graph));
+        same("after " + call + " the graph", State.of(graph), before);
+    }
+
+    /** Trouble is counted once; beside that, nodes may have been worked out, and no more. */
+    private QuoteGraph troubled(
+            String call, Class<? extends RuntimeException> due, Start start, Use use) {
+        QuoteGraph graph = start.make();
+        String before = State.beyondWork(graph);
+        int failures = graph.count(3);
+        fails(call, due, () -> use.of(graph));
+        same("after " + call + " the graph", State.beyondWork(graph), before);
+        same("after " + call + " count(3)", graph.count(3), failures + 1);
+        return graph;
+    }
+
+    private void fails(String call, Class<? extends RuntimeException> due, Call run) {
         compared++;
         String got = "nothing";
         try {
@@ -68,31 +137,6 @@ final class Check {
 
     private void tellWrong(String call, String got, String due) {
         wrong++;
-        System.out.println(call + " answered " + got + ", due is " + due);
-    }
-
-    /** Numbers that no method takes, whatever its range. */
-    static double[] neverNumbers() {
-        return new double[] {
-            Double.NaN, Double.POSITIVE_INFINITY, Double.NEGATIVE_INFINITY, Double.MAX_VALUE,
-            -Double.MAX_VALUE, Double.MIN_VALUE, 0.1, 0.0625, -0.0625, 1e18, 0.12500000000000003
-        };
-    }
-
-    /** A graph with the quotes 80 (0) and 8 (1), on which most tests hang their nodes. */
-    static QuoteGraph spotAndMove() {
-        QuoteGraph graph = new QuoteGraph();
-        graph.quote(80);
-        graph.quote(8);
-        return graph;
-    }
-
-    /** The same graph with quotes of 1 behind them, up to 16 nodes. */
-    static QuoteGraph full() {
-        QuoteGraph graph = spotAndMove();
-        for (int i = 2; i < 16; i++) {
-            graph.quote(1);
-        }
-        return graph;
+        System.out.println(sentence + call + " answered " + got + ", due is " + due);
     }
 }

@@ -1,10 +1,15 @@
 import java.util.Random;
 import java.util.function.Supplier;
 
-/** Long runs of calls on a graph and on the model: the same answers, the same state after each. */
+/**
+ * Long runs of calls on a graph and on the model: the same answers and the same state. An object
+ * is good for 512 calls, so only a part of the state is looked at before a run's end.
+ */
 public final class ModelTest {
-    private static final int RUNS = 400;
-    private static final int CALLS = 160;
+    private static final int RUNS = 1000;
+    private static final int CALLS = 120;
+    private static final int LOOKS = 2;
+    private static final int MOST_CALLS = 512;
     /** How often each outcome that main names has turned up. */
     private static final int[] SEEN = new int[7];
 
@@ -14,6 +19,7 @@ public final class ModelTest {
     private final QuoteGraph graph = new QuoteGraph();
     private final Model model = new Model();
     private final boolean large;
+    private int calls;
 
     private ModelTest(int seed) {
         random = new Random(seed);
@@ -40,8 +46,14 @@ public final class ModelTest {
         compareQuotes();
         for (int call = 0; call < CALLS; call++) {
             compareOne(random.nextInt(26));
-            compareState();
+            for (int look = 0; look < LOOKS; look++) {
+                compareSome();
+            }
+            endIfWrong();
         }
+        compareState();
+        check.same(run + ": calls are too many", calls > MOST_CALLS, false);
+        endIfWrong();
     }
 
     private void compareQuotes() {
@@ -142,6 +154,7 @@ public final class ModelTest {
     }
 
     private void compare(String call, Supplier<Object> due, Supplier<Object> got) {
+        calls++;
         String dueText = outcome(due);
         noteTrouble(dueText);
         String gotText = outcome(got);
@@ -160,18 +173,37 @@ public final class ModelTest {
 
     private void compareState() {
         for (int what = 0; what <= 3; what++) {
-            check.same(run + ": count " + what, graph.count(what), model.count(what));
+            compareCount(what);
         }
         for (int n = 0; n < model.nodes.size(); n++) {
             for (int what = 0; what <= 5; what++) {
-                String call = run + ": node " + n + " " + what;
-                check.same(call, graph.node(n, what), model.node(n, what));
+                compareNode(n, what);
             }
         }
+    }
+
+    private void compareSome() {
         int a = anyNode();
         int b = anyNode();
-        check.same(run + ": uses " + a + " " + b, graph.uses(a, b), model.uses(a, b));
-        endIfWrong();
+        int choice = random.nextInt(8);
+        if (choice == 0) {
+            calls++;
+            check.same(run + ": uses " + a + " " + b, graph.uses(a, b), model.uses(a, b));
+        } else if (choice == 1) {
+            compareCount(random.nextInt(4));
+        } else {
+            compareNode(a, random.nextInt(6));
+        }
+    }
+
+    private void compareCount(int what) {
+        calls++;
+        check.same(run + ": count " + what, graph.count(what), model.count(what));
+    }
+
+    private void compareNode(int n, int what) {
+        calls++;
+        check.same(run + ": node " + n + " " + what, graph.node(n, what), model.node(n, what));
     }
 
     private void endIfWrong() {

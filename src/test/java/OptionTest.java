@@ -1,102 +1,137 @@
-/** Promise 5: option, and the lattice that prices it at first. */
+/** Promise 5: option. */
 public final class OptionTest {
     public static void main(String[] args) {
         Check check = new Check();
-        pricesEachKind(check);
+        isAnOption(check);
+        refusesNodesThatAreNotThere(check);
+        takesEachKind(check);
+        takesTheEndsOfItsStrike(check);
+        takesTheEndsOfItsSteps(check);
+        startsWithoutRateAndKnock(check);
         startsPlain(check);
-        needsAMoveAboveZero(check);
-        goesToItsEdges(check);
-        isTooLargeByRounding(check);
-        refusesBadOnes(check);
+        answersItsNumber(check);
+        isThe16th(check);
+        isNotThe17th(check);
         check.end();
     }
 
-    private static void pricesEachKind(Check check) {
-        // Two steps of 8 from 80 end at 64, 80 and 96, in a half of the cases at 80.
-        double[][] due = {
-            {80, 4, 4, 75, 0},
-            {80.125, 3.96875, 4.09375, 25, -0.125},
-            {64, 16, 0, 100, 16},
-            {96, 0, 16, 25, -16},
-            {96.125, 0, 16.125, 0, -16.125},
+    private static void isAnOption(Check check) {
+        check.holds("Promise 5", "A new OPTION on the nodes spot and move");
+        QuoteGraph graph = Graphs.spotAndMove();
+        graph.option(0, 1, 3, 0, 1);
+        check.same("the graph", State.of(graph),
+                "counts 3 0 0 0; 0: 0 1 0 0 0 0 = 80.0; 1: 0 1 0 0 0 0 = 8.0; 2: 3 0 0 0 2 0");
+        check.same("on 80 and 8", graph.value(2), 80.0);
+        check.same("on 8 and 80", graph.value(graph.option(1, 0, 3, 0, 1)), 8.0);
+        check.same("on 8 and 8", graph.value(graph.option(1, 1, 3, 0, 1)), 8.0);
+        check.same("on an option", graph.value(graph.option(2, 1, 3, 1, 1)), 79.0);
+    }
+
+    private static void refusesNodesThatAreNotThere(Check check) {
+        check.holds("Promise 5", "A new OPTION on the nodes spot and move");
+        for (int gone : Graphs.goneNodes(10)) {
+            check.bad("spot " + gone, Graphs::lively, graph -> graph.option(gone, 1, 0, 80, 2));
+            check.bad("move " + gone, Graphs::lively, graph -> graph.option(0, gone, 0, 80, 2));
+        }
+    }
+
+    private static void takesEachKind(Check check) {
+        check.holds("Promise 5", "of a KIND 0 .. 3");
+        double[] due = {3.75, 4.75, 25, -1};
+        for (int kind = 0; kind <= 3; kind++) {
+            QuoteGraph graph = Graphs.spotAndMove();
+            graph.option(0, 1, kind, 81, 2);
+            check.same("kind " + kind, graph.value(2), due[kind]);
+        }
+        for (int kind : new int[] {-1, 4, 5, 256, Integer.MIN_VALUE, Integer.MAX_VALUE}) {
+            check.bad("kind " + kind, Graphs::lively, graph -> graph.option(0, 1, kind, 80, 2));
+        }
+    }
+
+    private static void takesTheEndsOfItsStrike(Check check) {
+        check.holds("Promise 5", "a STRIKE -100000 .. 100000");
+        for (double strike : new double[] {100000, -100000, 99999.875, -99999.875, 0, -0.125}) {
+            QuoteGraph graph = Graphs.spotAndMove();
+            graph.option(0, 1, 3, strike, 1);
+            check.same("strike " + strike, graph.value(2), 80 - strike);
+        }
+        double[] beyond = {
+            100000.125, -100000.125, Math.nextUp(100000.0), Math.nextDown(-100000.0), 1000000
         };
-        for (double[] row : due) {
-            for (int kind = 0; kind <= 3; kind++) {
-                QuoteGraph graph = Check.spotAndMove();
-                check.same("option", graph.option(0, 1, kind, row[0], 2), 2);
-                check.same("kind " + kind + " at " + row[0], graph.value(2), row[1 + kind]);
-            }
+        for (double strike : beyond) {
+            check.bad("strike " + strike, Graphs::lively,
+                    graph -> graph.option(0, 1, 0, strike, 2));
+        }
+        for (double never : Graphs.neverNumbers()) {
+            check.bad("strike " + never, Graphs::lively, graph -> graph.option(0, 1, 0, never, 2));
         }
     }
 
+    private static void takesTheEndsOfItsSteps(Check check) {
+        check.holds("Promise 5", "STEPS 1 .. 20");
+        QuoteGraph graph = Graphs.spotAndMove();
+        check.same("1 step", graph.value(graph.option(0, 1, 0, 80, 1)), 4.0);
+        check.same("2 steps", graph.value(graph.option(0, 1, 0, 80, 2)), 4.0);
+        check.same("3 steps", graph.value(graph.option(0, 1, 0, 80, 3)), 6.0);
+        check.same("20 steps", graph.value(graph.option(0, 1, 0, 80, 20)), 14.0966796875);
+        for (int steps : new int[] {0, 21, -1, 22, Integer.MIN_VALUE, Integer.MAX_VALUE}) {
+            check.bad("steps " + steps, Graphs::lively,
+                    lively -> lively.option(0, 1, 0, 80, steps));
+        }
+    }
+
+    private static void startsWithoutRateAndKnock(Check check) {
+        check.holds("Promise 5", "without rate and knock.");
+        QuoteGraph graph = Graphs.spotAndMove();
+        graph.option(0, 1, 3, 0, 20);
+        check.same("parts", graph.node(2, 4), 2);
+        check.same("nothing is taken by a rate", graph.value(2), 80.0);
+        int high = graph.option(0, 0, 3, -100000, 1);
+        check.same("no price is out", graph.value(high), 100080.0);
+    }
+
+    /** Each at first answers otherwise than what it could be given by terms or engine. */
     private static void startsPlain(Check check) {
-        QuoteGraph graph = Check.spotAndMove();
-        int o = graph.option(0, 1, 1, 100, 1);
-        check.same("sort", graph.node(o, 0), 3);
-        check.same("valid", graph.node(o, 1), 0);
-        check.same("frozen", graph.node(o, 2), 0);
-        check.same("missed", graph.node(o, 3), 0);
-        check.same("parts", graph.node(o, 4), 2);
-        check.same("worked out", graph.node(o, 5), 0);
-        check.same("an even chance", graph.value(o), 20.0);
-        check.same("spot and move may be one", graph.value(graph.option(1, 1, 3, 0, 1)), 8.0);
-        check.same("an option on an option", graph.value(graph.option(o, 1, 3, 1, 1)), 19.0);
+        check.holds("Promise 5 and Terms", "a CHANCE (1 .. 15 sixteenths, 8 at first)");
+        QuoteGraph graph = Graphs.withOption(0, 80, 1);
+        check.same("8 by a half", graph.value(2), 4.0);
+        check.holds("Promise 5 and Terms", "is AMERICAN or not (not at first)");
+        int digital = graph.option(0, 1, 2, 80, 2);
+        check.same("75, though 100 could be had at once", graph.value(digital), 75.0);
+        graph.engine(digital, 1, 0);
+        check.same("paths take it", graph.value(digital), 100.0);
+        check.holds("Promise 5 and Terms", "an ENGINE with a SIZE (LATTICE at first)");
+        int call = graph.option(0, 1, 0, 80, 3);
+        check.same("neither paths (8) nor a net (4)", graph.value(call), 6.0);
+        graph.engine(call, 0, 0);
+        check.same("the same lattice when it's chosen", graph.value(call), 6.0);
     }
 
-    private static void needsAMoveAboveZero(Check check) {
-        QuoteGraph graph = Check.spotAndMove();
-        int o = graph.option(0, 1, 3, 0, 1);
-        graph.set(1, 0);
-        check.arithmetic("move 0", () -> graph.value(o));
-        graph.set(1, -0.125);
-        check.arithmetic("move -0.125", () -> graph.value(o));
-        graph.set(1, 0.125);
-        check.same("move 0.125", graph.value(o), 80.0);
+    private static void answersItsNumber(Check check) {
+        check.holds("Promise 5", "Answers its number.");
+        QuoteGraph graph = Graphs.spotAndMove();
+        check.same("the third node", graph.option(0, 1, 0, 80, 2), 2);
+        check.bad("a bad one", () -> graph.option(0, 1, 4, 80, 2));
+        check.same("an option on an option", graph.option(2, 2, 0, 80, 2), 3);
     }
 
-    private static void goesToItsEdges(Check check) {
-        QuoteGraph graph = Check.spotAndMove();
-        check.same("20 steps", graph.value(graph.option(0, 1, 3, 30, 20)), 50.0);
-        check.same("least strike", graph.value(graph.option(0, 1, 0, -100000, 1)), 100080.0);
-        check.same("greatest strike", graph.value(graph.option(0, 1, 1, 100000, 1)), 99920.0);
+    private static void isThe16th(Check check) {
+        check.holds("Promise 5 and Terms", "NODES are numbered 0, 1, .. (at most 16)");
+        QuoteGraph graph = Graphs.almostFull();
+        check.same("the 16th", graph.option(0, 14, 3, 0, 1), 15);
+        check.same("its value", graph.value(15), 80.0);
     }
 
-    private static void isTooLargeByRounding(Check check) {
-        QuoteGraph graph = new QuoteGraph();
-        graph.quote(100000);
-        int spot = graph.blend(0, 0, 9, 0);
-        int large = graph.option(spot, 0, 3, -100000, 1);
-        // The payoffs 1100000 and 900000 are no results of ROUNDED, their mean is.
-        check.same("1000000", graph.value(large), 1000000.0);
-        int larger = graph.option(spot, 0, 3, -100000, 2);
-        check.arithmetic("1100000 after a step back", () -> graph.value(larger));
-        int above = graph.option(spot, 0, 3, -100000 + 0.125, 1);
-        check.same("999999.875", graph.value(above), 999999.875);
-        int million = graph.blend(0, 0, 10, 0);
-        int beyond = graph.option(million, 0, 3, -0.125, 1);
-        check.arithmetic("1000000.125", () -> graph.value(beyond));
-    }
-
-    private static void refusesBadOnes(Check check) {
-        QuoteGraph graph = Check.spotAndMove();
-        for (int gone : new int[] {-1, 2, 16, Integer.MIN_VALUE, Integer.MAX_VALUE}) {
-            check.bad("spot " + gone, () -> graph.option(gone, 1, 0, 80, 2));
-            check.bad("move " + gone, () -> graph.option(0, gone, 0, 80, 2));
-        }
-        for (int kind : new int[] {-1, 4, Integer.MIN_VALUE, Integer.MAX_VALUE}) {
-            check.bad("kind " + kind, () -> graph.option(0, 1, kind, 80, 2));
-        }
-        for (int steps : new int[] {0, -1, 21, Integer.MIN_VALUE, Integer.MAX_VALUE}) {
-            check.bad("steps " + steps, () -> graph.option(0, 1, 0, 80, steps));
-        }
-        for (double never : Check.neverNumbers()) {
-            check.bad("strike " + never, () -> graph.option(0, 1, 0, never, 2));
-        }
-        check.bad("strike 100000.125", () -> graph.option(0, 1, 0, 100000.125, 2));
-        check.bad("strike -100000.125", () -> graph.option(0, 1, 0, -100000.125, 2));
-        check.same("count(0) after bad ones", graph.count(0), 2);
-        QuoteGraph full = Check.full();
-        check.badState("a 17th node", () -> full.option(0, 1, 0, 80, 2));
-        check.bad("a 17th node of 0 steps", () -> full.option(0, 1, 0, 80, 0));
+    private static void isNotThe17th(Check check) {
+        check.holds("Promise 5 and Terms",
+                "16 nodes there and one more to come: IllegalStateException.");
+        check.badState("a 17th", Graphs::full, graph -> graph.option(0, 1, 0, 80, 2));
+        check.holds("Promise 5 and Terms", "it comes before other troubles.");
+        check.bad("a 17th on itself", Graphs::full, graph -> graph.option(16, 1, 0, 80, 2));
+        check.bad("a 17th of no move", Graphs::full, graph -> graph.option(0, -1, 0, 80, 2));
+        check.bad("a 17th of kind 4", Graphs::full, graph -> graph.option(0, 1, 4, 80, 2));
+        check.bad("a 17th of strike 0.1", Graphs::full, graph -> graph.option(0, 1, 0, 0.1, 2));
+        check.bad("a 17th of 0 steps", Graphs::full, graph -> graph.option(0, 1, 0, 80, 0));
+        check.bad("a 17th of 21 steps", Graphs::full, graph -> graph.option(0, 1, 0, 80, 21));
     }
 }

@@ -3,13 +3,17 @@ public final class UsesTest {
     public static void main(String[] args) {
         Check check = new Check();
         followsParts(check);
-        followsPartsToLaterNodes(check);
-        refusesBadOnes(check);
+        neverUsesItself(check);
+        followsRatesAndKnocksToLaterNodes(check);
+        followsNoPartThatIsGone(check);
+        refusesNodesThatAreNotThere(check);
+        changesNothing(check);
         check.end();
     }
 
     private static void followsParts(Check check) {
-        QuoteGraph graph = Check.spotAndMove();
+        check.holds("Promise 12 and Terms", "A node USES its PARTS and what they USE");
+        QuoteGraph graph = Graphs.spotAndMove();
         graph.quote(1);
         graph.blend(0, 1, 0, 0);
         graph.greater(3, 3);
@@ -21,11 +25,19 @@ public final class UsesTest {
                 check.same("uses(" + a + ", " + b + ")", graph.uses(a, b), due);
             }
         }
-        check.same("nothing was worked out", graph.count(2), 0);
     }
 
-    private static void followsPartsToLaterNodes(Check check) {
-        QuoteGraph graph = Check.spotAndMove();
+    private static void neverUsesItself(Check check) {
+        check.holds("Promise 12 and Terms", "no node USES itself.");
+        QuoteGraph graph = Graphs.lively();
+        for (int n = 0; n < 10; n++) {
+            check.same("uses(" + n + ", " + n + ")", graph.uses(n, n), false);
+        }
+    }
+
+    /** Options 2 .. 14, each with the next one for a rate or a knock, and a quote at the end. */
+    private static QuoteGraph longWay() {
+        QuoteGraph graph = Graphs.spotAndMove();
         for (int n = 2; n < 15; n++) {
             graph.option(0, 1, 0, 0, 1);
         }
@@ -33,21 +45,49 @@ public final class UsesTest {
         for (int n = 2; n < 15; n++) {
             graph.terms(n, n % 2 == 0 ? n + 1 : -1, 8, false, n % 2 == 0 ? -1 : n + 1);
         }
-        check.same("uses(2, 15) by 13 links", graph.uses(2, 15), true);
-        check.same("uses(14, 15)", graph.uses(14, 15), true);
-        check.same("uses(14, 2)", graph.uses(14, 2), false);
-        check.same("uses(2, 2)", graph.uses(2, 2), false);
-        check.bad("a ring of 13 options", () -> graph.terms(14, 2, 8, false, 15));
-        graph.terms(8, -1, 8, false, -1);
-        check.same("uses(2, 15) when a link is gone", graph.uses(2, 15), false);
-        check.same("uses(9, 15) when a link is gone", graph.uses(9, 15), true);
+        return graph;
     }
 
-    private static void refusesBadOnes(Check check) {
-        QuoteGraph graph = Check.spotAndMove();
-        for (int gone : new int[] {-1, 2, 16, 32, Integer.MIN_VALUE, Integer.MAX_VALUE}) {
-            check.bad("uses(" + gone + ", 0)", () -> graph.uses(gone, 0));
-            check.bad("uses(0, " + gone + ")", () -> graph.uses(0, gone));
+    private static void followsRatesAndKnocksToLaterNodes(Check check) {
+        check.holds("Promise 12", "Whether node a USES node b.");
+        QuoteGraph graph = longWay();
+        for (int n = 2; n < 15; n++) {
+            check.same("uses(" + n + ", 15)", graph.uses(n, 15), true);
+            check.same("uses(15, " + n + ")", graph.uses(15, n), false);
+            check.same("uses(2, " + n + ")", graph.uses(2, n), n != 2);
+            check.same("uses(14, " + n + ")", graph.uses(14, n), false);
         }
+        check.bad("a ring of 13 options", () -> graph.terms(14, 2, 8, false, 15));
+    }
+
+    private static void followsNoPartThatIsGone(Check check) {
+        check.holds("Promise 12", "Whether node a USES node b.");
+        QuoteGraph graph = longWay();
+        graph.terms(8, -1, 8, false, -1);
+        check.same("uses(2, 8)", graph.uses(2, 8), true);
+        check.same("uses(2, 9)", graph.uses(2, 9), false);
+        check.same("uses(2, 15)", graph.uses(2, 15), false);
+        check.same("uses(9, 15)", graph.uses(9, 15), true);
+        graph.terms(14, 2, 8, false, 15);
+        check.same("what would have been a ring", graph.uses(9, 8), true);
+    }
+
+    private static void refusesNodesThatAreNotThere(Check check) {
+        check.holds("Promise 12 and Terms", "a node that isn't there");
+        for (int gone : Graphs.goneNodes(10)) {
+            check.bad("uses(" + gone + ", 0)", Graphs::lively, graph -> graph.uses(gone, 0));
+            check.bad("uses(3, " + gone + ")", Graphs::lively, graph -> graph.uses(3, gone));
+            check.bad("uses both " + gone, Graphs::lively, graph -> graph.uses(gone, gone));
+        }
+    }
+
+    private static void changesNothing(Check check) {
+        check.holds("Promise 12", "Whether node a USES node b.");
+        QuoteGraph graph = Graphs.lively();
+        String before = State.of(graph);
+        for (int n = 0; n < 10; n++) {
+            graph.uses(n, 9 - n);
+        }
+        check.same("the graph", State.of(graph), before);
     }
 }
