@@ -65,8 +65,6 @@ public final class PathsTest {
             check.unsupported(call, () -> graph.value(2));
             check.unsupported(call + " by bump", () -> graph.bump(2, 0, 1));
             graph.terms(2, 3, 15, false, 4);
-            boolean fine = row[0] > 0 && row[1] >= 0 && row[1] <= 1024;
-            check.same("all of them are trouble else", fine, false);
             check.arithmetic(call + ", not american", () -> graph.value(2));
         }
     }

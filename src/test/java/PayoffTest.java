@@ -151,14 +151,14 @@ public final class PayoffTest {
 
     private static void isNothingAboveTheKnock(Check check) {
         check.holds("Terms", "If there is a knock and x is k or more, it's 0 instead.");
-        double[] mean = {36, 14, 50, -14};
+        // 1/1024 more at 72 makes the mean 1/2048 more or less, and that is rounded up.
+        double[] mean = {36 + Graphs.UNIT, 14, 50, -14 + Graphs.UNIT};
         for (int kind = 0; kind <= 3; kind++) {
             for (int engine = 0; engine <= 2; engine += 2) {
-                double more = kind == 0 ? 0.5 : kind == 1 ? -0.5 : kind == 3 ? 0.5 : 0;
                 check.same("kind " + kind + " above 88 by " + engine,
-                        knocked(kind, 2, engine), mean[kind] + more * 2 * Graphs.UNIT);
+                        knocked(kind, 1, engine), mean[kind]);
             }
-            check.same("kind " + kind + " by a path above 88", knocked(kind, 2, 1), 0.0);
+            check.same("kind " + kind + " by a path above 88", knocked(kind, 1, 1), 0.0);
         }
     }
 }
