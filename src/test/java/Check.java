@@ -74,7 +74,7 @@ final class Check {
         fails(call, UnsupportedOperationException.class, run);
     }
 
-    /** The use of a new graph is bad, and nothing that can be seen of the graph changes by it. */
+    /** The use of a new graph is bad, and nothing that State tells of the graph changes by it. */
     void bad(String call, Start start, Use use) {
         refused(call, IllegalArgumentException.class, start, use);
     }

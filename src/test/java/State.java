@@ -3,7 +3,7 @@ final class State {
     private State() {
     }
 
-    /** All of it: the counts, and of each node what node tells and its value, unless it's stale. */
+    /** The counts, and of each node what node tells and its value, unless it's stale. */
     static String of(QuoteGraph graph) {
         StringBuilder text = new StringBuilder("counts");
         for (int what = 0; what <= 3; what++) {
