@@ -8,19 +8,22 @@ import java.util.TreeSet;
 
 /** The class has the document's face and no other member that can be seen from outside. */
 public final class FaceTest {
+    private static final String BAD = " throws IllegalArgumentException";
+    private static final String STATE = ", IllegalStateException";
+    private static final String TROUBLE = ", ArithmeticException, UnsupportedOperationException";
     private static final String[] FACE = {
-        "int quote(double)",
-        "int blend(int, int, double, double)",
-        "int greater(int, int)",
-        "int option(int, int, int, double, int)",
-        "void terms(int, int, int, boolean, int)",
-        "void engine(int, int, int)",
-        "int set(int, double)",
-        "double value(int)",
-        "void freeze(int, boolean)",
-        "double bump(int, int, double)",
-        "boolean uses(int, int)",
-        "int node(int, int)",
+        "int quote(double)" + BAD + STATE,
+        "int blend(int, int, double, double)" + BAD + STATE,
+        "int greater(int, int)" + BAD + STATE,
+        "int option(int, int, int, double, int)" + BAD + STATE,
+        "void terms(int, int, int, boolean, int)" + BAD + STATE,
+        "void engine(int, int, int)" + BAD + STATE,
+        "int set(int, double)" + BAD,
+        "double value(int)" + BAD + TROUBLE,
+        "void freeze(int, boolean)" + BAD + STATE,
+        "double bump(int, int, double)" + BAD + TROUBLE,
+        "boolean uses(int, int)" + BAD,
+        "int node(int, int)" + BAD,
         "int count(int)",
     };
 
@@ -46,6 +49,7 @@ public final class FaceTest {
         check.same("constructors", made.length, 1);
         check.same("public constructor", Modifier.isPublic(made[0].getModifiers()), true);
         check.same("constructor's parameters", made[0].getParameterCount(), 0);
+        check.same("constructor's exceptions", made[0].getExceptionTypes().length, 0);
     }
 
     private static void checkMethods(Check check, Class<?> face) {
@@ -68,10 +72,17 @@ public final class FaceTest {
     }
 
     private static String asWritten(Method method) {
+        String taken = listed(method.getParameterTypes());
+        String thrown = listed(method.getExceptionTypes());
+        return method.getReturnType().getSimpleName() + " " + method.getName() + "(" + taken + ")"
+                + (thrown.isEmpty() ? "" : " throws " + thrown);
+    }
+
+    private static String listed(Class<?>[] types) {
         StringBuilder text = new StringBuilder();
-        for (Class<?> type : method.getParameterTypes()) {
-            text.append(text.length() == 0 ? "" : ", ").append(type.getName());
+        for (Class<?> type : types) {
+            text.append(text.length() == 0 ? "" : ", ").append(type.getSimpleName());
         }
-        return method.getReturnType().getName() + " " + method.getName() + "(" + text + ")";
+        return text.toString();
     }
 }
