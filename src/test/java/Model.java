@@ -5,8 +5,7 @@ import java.util.List;
 
 /**
  * The document in its plainest form, in exact decimals and with nothing clever: what QuoteGraph
- * answers must be what this answers. Wrong inputs have tests of their own and don't come here,
- * but for frozen nodes, rings and a full graph.
+ * answers must be what this answers.
  */
 final class Model {
     static final class Node {
@@ -39,30 +38,63 @@ final class Model {
     int failures;
 
     int quote(double value) {
+        BigDecimal given = number(value, 100000);
         Node made = add('Q');
-        made.value = new BigDecimal(value);
+        made.value = given;
         made.valid = true;
         return nodes.size() - 1;
     }
 
     int blend(int a, int b, double x, double y) {
+        refuseGone(a, b);
+        BigDecimal first = number(x, 16);
+        BigDecimal second = number(y, 16);
         Node made = add('B', a, b);
-        made.x = new BigDecimal(x);
-        made.y = new BigDecimal(y);
+        made.x = first;
+        made.y = second;
         return nodes.size() - 1;
     }
 
     int greater(int a, int b) {
+        refuseGone(a, b);
         add('G', a, b);
         return nodes.size() - 1;
     }
 
     int option(int spot, int move, int kind, double strike, int steps) {
+        refuseGone(spot, move);
+        refuseOutside(kind, 0, 3);
+        BigDecimal given = number(strike, 100000);
+        refuseOutside(steps, 1, 20);
         Node made = add('O', spot, move);
         made.kind = kind;
-        made.strike = new BigDecimal(strike);
+        made.strike = given;
         made.steps = steps;
         return nodes.size() - 1;
+    }
+
+    private void refuseGone(int... given) {
+        for (int n : given) {
+            refuseOutside(n, 0, nodes.size() - 1);
+        }
+    }
+
+    private static void refuseOutside(int given, int least, int most) {
+        if (given < least || given > most) {
+            throw new IllegalArgumentException();
+        }
+    }
+
+    private static BigDecimal number(double given, int most) {
+        if (Double.isNaN(given) || Double.isInfinite(given)) {
+            throw new IllegalArgumentException();
+        }
+        BigDecimal exact = new BigDecimal(given);
+        boolean eighths = exact.remainder(new BigDecimal("0.125")).signum() == 0;
+        if (!eighths || exact.abs().compareTo(new BigDecimal(most)) > 0) {
+            throw new IllegalArgumentException();
+        }
+        return exact;
     }
 
     private Node add(char sort, int... parts) {
@@ -79,10 +111,11 @@ final class Model {
     }
 
     void terms(int o, int rate, int chance, boolean american, int knock) {
-        Node option = optionAt(o);
+        Node option = nodeAt(o, 'O');
         if (closesRing(rate, o) || closesRing(knock, o)) {
             throw new IllegalArgumentException();
         }
+        refuseOutside(chance, 1, 15);
         refuseFrozen(option);
         option.rate = rate;
         option.knock = knock;
@@ -99,22 +132,25 @@ final class Model {
     }
 
     private boolean closesRing(int part, int o) {
-        return part == o || part >= 0 && uses(part, o);
+        return part == o || part != -1 && uses(part, o);
     }
 
     void engine(int o, int engine, int size) {
-        Node option = optionAt(o);
+        Node option = nodeAt(o, 'O');
+        refuseOutside(engine, 0, 2);
+        refuseOutside(size, new int[] {0, 0, 1}[engine], new int[] {0, 6, 20}[engine]);
         refuseFrozen(option);
         option.engine = engine;
         option.size = size;
         tell(o);
     }
 
-    private Node optionAt(int o) {
-        if (nodes.get(o).sort != 'O') {
+    private Node nodeAt(int n, char sort) {
+        refuseGone(n);
+        if (nodes.get(n).sort != sort) {
             throw new IllegalArgumentException();
         }
-        return nodes.get(o);
+        return nodes.get(n);
     }
 
     private static void refuseFrozen(Node option) {
@@ -124,12 +160,11 @@ final class Model {
     }
 
     int set(int q, double value) {
-        if (nodes.get(q).sort != 'Q') {
-            throw new IllegalArgumentException();
-        }
+        Node quote = nodeAt(q, 'Q');
+        BigDecimal given = number(value, 100000);
         int before = told;
-        if (nodes.get(q).value.compareTo(new BigDecimal(value)) != 0) {
-            nodes.get(q).value = new BigDecimal(value);
+        if (quote.value.compareTo(given) != 0) {
+            quote.value = given;
             tellUsers(q);
         }
         return told - before;
@@ -158,6 +193,7 @@ final class Model {
     }
 
     double value(int n) {
+        refuseGone(n);
         return counted(n).doubleValue();
     }
 
@@ -171,6 +207,7 @@ final class Model {
     }
 
     void freeze(int n, boolean on) {
+        refuseGone(n);
         Node node = nodes.get(n);
         if (node.sort == 'Q') {
             throw new IllegalArgumentException();
@@ -190,9 +227,9 @@ final class Model {
     }
 
     double bump(int n, int q, double by) {
-        if (nodes.get(q).sort != 'Q') {
-            throw new IllegalArgumentException();
-        }
+        refuseGone(n);
+        Node quote = nodeAt(q, 'Q');
+        BigDecimal more = number(by, 1000);
         BigDecimal before = counted(n);
         List<BigDecimal> values = new ArrayList<>();
         List<Boolean> valid = new ArrayList<>();
@@ -201,7 +238,7 @@ final class Model {
             valid.add(node.valid);
         }
         try {
-            nodes.get(q).value = nodes.get(q).value.add(new BigDecimal(by));
+            quote.value = quote.value.add(more);
             for (int user = 0; user < nodes.size(); user++) {
                 if (uses(user, q) && !nodes.get(user).frozen) {
                     nodes.get(user).valid = false;
@@ -217,6 +254,7 @@ final class Model {
     }
 
     boolean uses(int a, int b) {
+        refuseGone(a, b);
         return uses(a, b, new boolean[16]);
     }
 
@@ -234,6 +272,8 @@ final class Model {
     }
 
     int node(int n, int what) {
+        refuseGone(n);
+        refuseOutside(what, 0, 5);
         Node node = nodes.get(n);
         int[] answers = {
             "QBGO".indexOf(node.sort), node.valid ? 1 : 0, node.frozen ? 1 : 0,
@@ -243,7 +283,8 @@ final class Model {
     }
 
     int count(int what) {
-        return new int[] {nodes.size(), told, worked, failures}[what];
+        int[] answers = {nodes.size(), told, worked, failures};
+        return what < 0 || what > 3 ? -1 : answers[what];
     }
 
     private BigDecimal ask(int n) {

@@ -2,14 +2,16 @@ import java.util.Random;
 import java.util.function.Supplier;
 
 /**
- * Long runs of calls on a graph and on the model: the same answers and the same state. An object
- * is good for 512 calls, so only a part of the state is looked at before a run's end.
+ * Runs of 512 calls, as many as an object is good for, on a graph and on the model: the same
+ * answers and the same state. So that calls are left for changes, only a part of the state is
+ * looked at before a run's end. Now and then an argument is wrong.
  */
 public final class ModelTest {
     private static final int RUNS = 1000;
-    private static final int CALLS = 120;
+    private static final int CALLS = 136;
     private static final int LOOKS = 2;
     private static final int MOST_CALLS = 512;
+    private static final int ONE_WRONG_OF = 40;
     /** How often each outcome that main names has turned up. */
     private static final int[] SEEN = new int[7];
 
@@ -19,12 +21,14 @@ public final class ModelTest {
     private final QuoteGraph graph = new QuoteGraph();
     private final Model model = new Model();
     private final boolean large;
+    private final boolean startsEmpty;
     private int calls;
 
     private ModelTest(int seed) {
         random = new Random(seed);
         run = "run " + seed;
         large = seed % 3 == 0;
+        startsEmpty = seed % 8 == 0;
     }
 
     public static void main(String[] args) {
@@ -43,23 +47,27 @@ public final class ModelTest {
     }
 
     private void compareAll() {
-        compareQuotes();
+        if (!startsEmpty) {
+            compareQuotes();
+        }
         for (int call = 0; call < CALLS; call++) {
             compareOne(random.nextInt(26));
             for (int look = 0; look < LOOKS; look++) {
                 compareSome();
             }
-            endIfWrong();
         }
         compareState();
-        check.same(run + ": calls are too many", calls > MOST_CALLS, false);
+        while (calls < MOST_CALLS) {
+            compareSome();
+        }
+        check.same(run + ": calls", calls, MOST_CALLS);
         endIfWrong();
     }
 
     private void compareQuotes() {
         for (int i = 0; i < 3; i++) {
             double given = i == 1 ? 0.125 * (1 + random.nextInt(large ? 800000 : 100)) : number();
-            compare("quote(" + given + ")", () -> model.quote(given), () -> graph.quote(given));
+            compare("quote " + given, () -> model.quote(given), () -> graph.quote(given));
         }
     }
 
@@ -70,8 +78,8 @@ public final class ModelTest {
         if (choice < 1) {
             compare("quote " + number, () -> model.quote(number), () -> graph.quote(number));
         } else if (choice < 3) {
-            double x = 0.125 * (random.nextInt(257) - 128);
-            double y = 0.125 * (random.nextInt(33) - 16);
+            double x = eighths(16);
+            double y = eighths(2);
             String call = "blend " + a + " " + b + " " + x + " " + y;
             compare(call, () -> model.blend(a, b, x, y), () -> graph.blend(a, b, x, y));
         } else if (choice < 4) {
@@ -79,8 +87,8 @@ public final class ModelTest {
             compare(call, () -> model.greater(a, b), () -> graph.greater(a, b));
         } else if (choice < 6) {
             int move = random.nextInt(4) == 0 ? b : 1;
-            int kind = random.nextInt(4);
-            int steps = 1 + random.nextInt(20);
+            int kind = within(0, 3);
+            int steps = within(1, 20);
             compare("option " + a + " " + move + " " + kind + " " + number + " " + steps,
                     () -> model.option(a, move, kind, number, steps),
                     () -> graph.option(a, move, kind, number, steps));
@@ -100,7 +108,7 @@ public final class ModelTest {
             compare("freeze " + a + " " + on, () -> done(() -> model.freeze(a, on)),
                     () -> done(() -> graph.freeze(a, on)));
         } else {
-            double by = 0.125 * (random.nextInt(16001) - 8000);
+            double by = eighths(1000);
             int q = random.nextInt(8) == 0 ? b : random.nextInt(3);
             compare("bump " + a + " " + q + " " + by,
                     () -> model.bump(a, q, by), () -> graph.bump(a, q, by));
@@ -110,7 +118,7 @@ public final class ModelTest {
     private void compareTerms(int o) {
         int rate = random.nextInt(3) == 0 ? anyNode() : -1;
         int knock = random.nextInt(3) == 0 ? anyNode() : -1;
-        int chance = 1 + random.nextInt(random.nextBoolean() ? 8 : 15);
+        int chance = within(1, random.nextBoolean() ? 8 : 15);
         boolean american = random.nextInt(3) == 0;
         compare("terms " + o + " " + rate + " " + chance + " " + american + " " + knock,
                 () -> done(() -> model.terms(o, rate, chance, american, knock)),
@@ -118,31 +126,64 @@ public final class ModelTest {
     }
 
     private void compareEngine(int o) {
-        int engine = random.nextInt(3);
-        int[] least = {0, 0, 1};
-        int[] choices = {1, 7, 20};
-        int size = least[engine] + random.nextInt(choices[engine]);
+        int engine = within(0, 2);
+        int size = engine == 0 ? within(0, 0) : engine == 1 ? within(0, 6) : within(1, 20);
         compare("engine " + o + " " + engine + " " + size,
                 () -> done(() -> model.engine(o, engine, size)),
                 () -> done(() -> graph.engine(o, engine, size)));
     }
 
+    private boolean wrongNow() {
+        return random.nextInt(ONE_WRONG_OF) == 0;
+    }
+
     private int anyNode() {
-        return random.nextInt(model.nodes.size());
+        int count = model.nodes.size();
+        if (count == 0 || wrongNow()) {
+            int[] gone = Graphs.goneNodes(count);
+            return gone[random.nextInt(gone.length)];
+        }
+        return random.nextInt(count);
     }
 
     /** A node that is an option, if one turns up soon. */
     private int option() {
         for (int tries = 0; tries < 10; tries++) {
             int n = anyNode();
-            if (model.nodes.get(n).sort == 'O') {
+            if (isThere(n) && model.nodes.get(n).sort == 'O') {
                 return n;
             }
         }
         return anyNode();
     }
 
+    private boolean isThere(int n) {
+        return n >= 0 && n < model.nodes.size();
+    }
+
+    private int within(int least, int most) {
+        if (wrongNow()) {
+            int[] outside = {least - 1, most + 1, Integer.MIN_VALUE, Integer.MAX_VALUE};
+            return outside[random.nextInt(outside.length)];
+        }
+        return least + random.nextInt(most - least + 1);
+    }
+
+    private double eighths(int most) {
+        return wrongNow() ? wrongNumber(most) : 0.125 * (random.nextInt(16 * most + 1) - 8 * most);
+    }
+
+    private double wrongNumber(int most) {
+        double[] never = Graphs.neverNumbers();
+        int choice = random.nextInt(never.length + 2);
+        return choice < never.length ? never[choice]
+                : choice == never.length ? most + 0.125 : -most - 0.125;
+    }
+
     private double number() {
+        if (wrongNow()) {
+            return wrongNumber(100000);
+        }
         int most = large && random.nextBoolean() ? 800000 : 1000;
         double given = 0.125 * (random.nextInt(2 * most + 1) - most);
         return random.nextInt(3) == 0 ? given : Math.abs(given);
@@ -187,23 +228,20 @@ public final class ModelTest {
         int b = anyNode();
         int choice = random.nextInt(8);
         if (choice == 0) {
-            calls++;
-            check.same(run + ": uses " + a + " " + b, graph.uses(a, b), model.uses(a, b));
+            compare("uses " + a + " " + b, () -> model.uses(a, b), () -> graph.uses(a, b));
         } else if (choice == 1) {
-            compareCount(random.nextInt(4));
+            compareCount(within(0, 3));
         } else {
-            compareNode(a, random.nextInt(6));
+            compareNode(a, within(0, 5));
         }
     }
 
     private void compareCount(int what) {
-        calls++;
-        check.same(run + ": count " + what, graph.count(what), model.count(what));
+        compare("count " + what, () -> model.count(what), () -> graph.count(what));
     }
 
     private void compareNode(int n, int what) {
-        calls++;
-        check.same(run + ": node " + n + " " + what, graph.node(n, what), model.node(n, what));
+        compare("node " + n + " " + what, () -> model.node(n, what), () -> graph.node(n, what));
     }
 
     private void endIfWrong() {
@@ -213,9 +251,8 @@ public final class ModelTest {
     }
 
     private void noteValue(int n) {
-        Model.Node node = model.nodes.get(n);
-        if (node.sort == 'O' && node.valid) {
-            SEEN[node.engine]++;
+        if (isThere(n) && model.nodes.get(n).sort == 'O' && model.nodes.get(n).valid) {
+            SEEN[model.nodes.get(n).engine]++;
         }
     }
 
